@@ -522,7 +522,7 @@ public final class Aquiferward {
             followed = diary.size();
         }
 
-        /** The well that is left out keeps its number, but without an amount and a wish it does nothing. */
+        /** The well that is left out keeps its number, but without a wish it never pumps, and never calls. */
         void follow(Call call) {
             switch (call.kind) {
                 case SET_CELL:
@@ -551,10 +551,12 @@ public final class Aquiferward {
                     land.sea = call.first;
                     break;
                 case ADD_WELL:
-                    wells.add(call.first, call.second, wells.count == leftOut ? 0 : call.third);
+                    wells.add(call.first, call.second, call.third);
                     break;
                 case SET_WISH:
-                    wells.wishes[call.first] = call.first == leftOut ? 0 : call.second;
+                    if (call.first != leftOut) {
+                        wells.wishes[call.first] = call.second;
+                    }
                     break;
                 case TRANSFER:
                     followTransfer(call.first, call.second, call.third);

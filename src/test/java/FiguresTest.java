@@ -50,6 +50,9 @@ public final class FiguresTest {
         due.is("meanLevel of a full cell", land.meanLevel(), 5099 / 16.0);
         land.setCell(10, 0, 10, 19);
         due.is("meanLevel of rounded levels", land.meanLevel(), 5100 / 16.0);
+        land.setCell(0, 20, 10, 10);
+        land.setCell(15, 30, 10, 10);
+        due.is("meanLevel with the first and the last cell", land.meanLevel(), 5152 / 16.0);
     }
 
     private static void isSound() {
@@ -84,18 +87,28 @@ public final class FiguresTest {
         land.addWell(0, 0, 999);
         land.addWell(0, 1, 999);
         int calls = 2;
-        while (calls < 510) {
+        while (calls < 509) {
             land.setWish(calls % 2, calls % 100);
             land.setCell(0, 0, 10, calls % 300);
             land.pass(1);
             calls += 3;
         }
-        due.is("sound behind 511 calls", land.isSound(), true);
-        Aquiferward asked = new Aquiferward();
-        for (int call = 0; call < 600; call++) {
-            asked.setRain(call % 8, call % 100);
-            asked.setBed(call % 8, call % 100, 9);
+        due.is("sound behind 509 calls", land.isSound(), true);
+        callsBehindTheLast();
+    }
+
+    /** What calls behind the 512th one answer is free, but each of them ends without an exception of the machine. */
+    private static void callsBehindTheLast() {
+        Aquiferward land = new Aquiferward();
+        land.addWell(0, 0, 999);
+        land.addWell(1, 0, 999);
+        for (int call = 0; call < 2000; call++) {
+            land.setRain(call % 8, call % 100);
+            land.setWish(call % 2, call % 100);
         }
-        due.is("a call behind the 512th one ends", asked.pass(24), 24);
+        land.pass(24);
+        land.pumpedWithout(0, 1);
+        land.isSound();
+        due.is("calls behind the 512th one end", true, true);
     }
 }

@@ -63,10 +63,16 @@ public final class MonthTest {
             due.outOfBounds("eventAt(" + cell + ")", () -> land.eventAt(cell));
         }
         due.outOfBounds("eventAt(0) without events", () -> land.eventAt(0));
-        String known = "wrpiosnml";
-        for (int what = 0; what < 0x10000; what++) {
+        for (int first = 0; first < 0x10000; first += 512) {
+            asksForAccounts(first);
+        }
+    }
+
+    private static void asksForAccounts(int first) {
+        Aquiferward land = new Aquiferward();
+        for (int what = first; what < first + 512; what++) {
             char asked = (char) what;
-            if (known.indexOf(asked) < 0) {
+            if ("wrpiosnml".indexOf(asked) < 0) {
                 due.illegal("account of char " + what, () -> land.account(asked));
             }
         }
@@ -97,6 +103,15 @@ public final class MonthTest {
         due.is("lower cell at its right", land.water(13), 120);
         due.is("lower cell further right", land.water(14), 10);
         due.is("the upper layer stays", land.water(4), 0);
+        Aquiferward inner = new Aquiferward();
+        inner.setConductance(0, 9);
+        inner.setCell(1, 0, 10, 100);
+        inner.setCell(6, 0, 10, 100);
+        inner.pass(1);
+        due.is("from the column 1 to the column 0", inner.water(0), 22);
+        due.is("from the column 1 to the column 2", inner.water(2), 22);
+        due.is("from the column 6 to the column 7", inner.water(7), 22);
+        due.is("from the column 6 to the column 5", inner.water(5), 22);
         Aquiferward edge = new Aquiferward();
         edge.setConductance(0, 9);
         edge.setCell(7, 0, 10, 100);
@@ -238,6 +253,11 @@ public final class MonthTest {
         due.is("water that leaked", land.water(8), 3);
         due.is("salt that leaked behind it", land.salt(8), 66);
         due.is("salt that stayed", land.salt(0), 66);
+        land.setConductance(0, 0);
+        land.setLeakage(0, 0);
+        land.pass(1);
+        due.is("salt that flowed comes once", land.salt(1), 43);
+        due.is("salt that leaked comes once", land.salt(8), 66);
     }
 
     private static void riverFeeds() {
