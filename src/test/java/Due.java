@@ -33,6 +33,17 @@ final class Due {
         is(call, got, want.getName());
     }
 
+    /** The call must answer, whatever it answers. */
+    void allowed(String call, Asked what) {
+        String got = "an answer";
+        try {
+            what.answer();
+        } catch (RuntimeException refusal) {
+            got = refusal.getClass().getName();
+        }
+        is(call, got, "an answer");
+    }
+
     void outOfBounds(String call, Asked what) {
         refused(call, IndexOutOfBoundsException.class, what);
     }

@@ -41,6 +41,11 @@ public final class FaceTest {
         "boolean isSound()",
     };
 
+    /** The types that LANGUAGE.md allows for what is static. */
+    private static final Set<Class<?>> STATICS = Set.of(int.class, long.class, boolean.class, char.class, String.class,
+            int[].class, long[].class, char[].class, byte[].class);
+    private static final int MOST_FIELDS = 20;
+
     public static void main(String[] args) {
         Due due = new Due("FaceTest");
         Class<?> face = Aquiferward.class;
@@ -63,8 +68,8 @@ public final class FaceTest {
         }
         for (Field field : face.getDeclaredFields()) {
             due.is(field + " is private", Modifier.isPrivate(field.getModifiers()), true);
-            checkStatic(due, field);
         }
+        checkFields(due, face);
         Constructor<?>[] constructors = face.getDeclaredConstructors();
         due.is("the constructors", constructors.length, 1);
         due.is("the constructor", constructors[0].toString(), "public Aquiferward()");
@@ -72,9 +77,7 @@ public final class FaceTest {
             due.is(inside + " is public or protected",
                     Modifier.isPublic(inside.getModifiers()) || Modifier.isProtected(inside.getModifiers()), false);
             due.is(inside + " is static", Modifier.isStatic(inside.getModifiers()), true);
-            for (Field field : inside.getDeclaredFields()) {
-                checkStatic(due, field);
-            }
+            checkFields(due, inside);
         }
         due.end();
     }
@@ -82,7 +85,17 @@ public final class FaceTest {
     private static void checkStatic(Due due, Field field) {
         if (Modifier.isStatic(field.getModifiers())) {
             due.is(field + " is final", Modifier.isFinal(field.getModifiers()), true);
+            due.is(field + " is a constant", STATICS.contains(field.getType()), true);
         }
+    }
+
+    private static void checkFields(Due due, Class<?> inside) {
+        int count = 0;
+        for (Field field : inside.getDeclaredFields()) {
+            checkStatic(due, field);
+            count += Modifier.isStatic(field.getModifiers()) ? 0 : 1;
+        }
+        due.is(inside + " has " + count + " fields, at most " + MOST_FIELDS, count <= MOST_FIELDS, true);
     }
 
     private static String told(Method method) {

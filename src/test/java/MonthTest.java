@@ -23,14 +23,6 @@ public final class MonthTest {
         due.end();
     }
 
-    /** A land in which no water flows between the cells. */
-    private static Aquiferward stillLand() {
-        Aquiferward land = new Aquiferward();
-        land.setConductance(0, 0);
-        land.setConductance(1, 0);
-        return land;
-    }
-
     private static void months() {
         Aquiferward land = new Aquiferward();
         due.illegal("pass(0)", () -> land.pass(0));
@@ -79,7 +71,7 @@ public final class MonthTest {
     }
 
     private static void rain() {
-        Aquiferward land = stillLand();
+        Aquiferward land = Lands.still();
         land.setRain(0, 99);
         land.setRain(7, 1);
         land.pass(1);
@@ -140,7 +132,7 @@ public final class MonthTest {
     }
 
     private static void flowsLeak() {
-        Aquiferward land = stillLand();
+        Aquiferward land = Lands.still();
         land.setLeakage(0, 2);
         land.setLeakage(7, 9);
         land.setCell(0, 0, 10, 100);
@@ -192,7 +184,7 @@ public final class MonthTest {
 
     /** Cell 0 gets 10 units of sea water, and the sea is still again. */
     private static Aquiferward saltyLand() {
-        Aquiferward land = stillLand();
+        Aquiferward land = Lands.still();
         land.setCell(0, -10, 50, 0);
         land.setSea(4);
         land.pass(1);
@@ -236,7 +228,7 @@ public final class MonthTest {
     }
 
     private static void saltGoesWithFlowsInOrder() {
-        Aquiferward land = stillLand();
+        Aquiferward land = Lands.still();
         land.setCell(0, -5, 50, 0);
         land.setSea(4);
         land.pass(1);
@@ -261,7 +253,7 @@ public final class MonthTest {
     }
 
     private static void riverFeeds() {
-        Aquiferward land = stillLand();
+        Aquiferward land = Lands.still();
         land.setRiver(50);
         land.setBed(6, 10, 4);
         land.setBed(4, 5, 3);
@@ -281,7 +273,7 @@ public final class MonthTest {
     }
 
     private static void riverDrinks() {
-        Aquiferward land = stillLand();
+        Aquiferward land = Lands.still();
         land.setCell(6, 10, 10, 8);
         land.setCell(3, 0, 10, 79);
         land.setBed(6, 0, 9);
@@ -299,7 +291,7 @@ public final class MonthTest {
     }
 
     private static void riverFallsDry() {
-        Aquiferward land = stillLand();
+        Aquiferward land = Lands.still();
         land.setRiver(10);
         land.setBed(7, 10, 4);
         land.setBed(6, 0, 9);
@@ -317,14 +309,14 @@ public final class MonthTest {
         due.is("event 1", land.eventAt(1), 'd');
         due.is("account l", land.account('l'), 3);
         due.outOfBounds("eventAt(2) of 2", () -> land.eventAt(2));
-        Aquiferward none = stillLand();
+        Aquiferward none = Lands.still();
         none.setBed(5, 0, 9);
         none.pass(1);
         due.is("a river without water from which nothing would go", none.events(), 0);
     }
 
     private static void springs() {
-        Aquiferward land = stillLand();
+        Aquiferward land = Lands.still();
         land.setGround(2, 5);
         land.setCell(2, 0, 10, 59);
         land.setCell(10, 0, 10, 90);
@@ -349,7 +341,7 @@ public final class MonthTest {
         due.is("at a ground of 100", land.water(5), 1);
         due.is("filled to a ground of 100", land.water(6), 149);
         due.is("filled above a ground of 100", land.water(7), 100);
-        Aquiferward empty = stillLand();
+        Aquiferward empty = Lands.still();
         empty.setGround(0, -100);
         empty.pass(1);
         due.is("a spring of an empty cell", empty.account('s'), 0);
@@ -357,7 +349,7 @@ public final class MonthTest {
     }
 
     private static void sea() {
-        Aquiferward land = stillLand();
+        Aquiferward land = Lands.still();
         land.setSea(1);
         land.setCell(0, -7, 50, 0);
         land.setCell(8, -3, 50, 0);
@@ -382,7 +374,7 @@ public final class MonthTest {
         salty.setSea(4);
         salty.pass(1);
         due.is("salt comes to salt", salty.salt(0), 700);
-        Aquiferward out = stillLand();
+        Aquiferward out = Lands.still();
         out.setCell(0, -1, 1, 0);
         out.setSea(4);
         out.pass(1);
@@ -394,14 +386,14 @@ public final class MonthTest {
     }
 
     private static void orderOfTheMonth() {
-        Aquiferward land = stillLand();
+        Aquiferward land = Lands.still();
         land.setRain(0, 20);
         land.addWell(0, 0, 999);
         land.setWish(0, 20);
         land.pass(1);
         due.is("rain comes ahead of the wells", land.pumped(0), 20);
 
-        Aquiferward river = stillLand();
+        Aquiferward river = Lands.still();
         river.setRiver(999);
         river.setBed(4, 100, 9);
         river.setGround(4, 2);
@@ -411,7 +403,7 @@ public final class MonthTest {
         due.is("wells pump ahead of the river", river.pumped(0), 0);
         due.is("the river goes ahead of springs", river.water(4), 20);
 
-        Aquiferward shore = stillLand();
+        Aquiferward shore = Lands.still();
         shore.setGround(0, 5);
         shore.setCell(0, 0, 10, 90);
         shore.setSea(4);
@@ -427,7 +419,7 @@ public final class MonthTest {
     }
 
     private static void accounts() {
-        Aquiferward land = stillLand();
+        Aquiferward land = Lands.still();
         land.setRain(1, 10);
         land.setRiver(30);
         land.setBed(7, 5, 4);

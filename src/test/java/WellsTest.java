@@ -28,14 +28,6 @@ public final class WellsTest {
         due.end();
     }
 
-    /** A land in which no water flows between the cells. */
-    private static Aquiferward stillLand() {
-        Aquiferward land = new Aquiferward();
-        land.setConductance(0, 0);
-        land.setConductance(1, 0);
-        return land;
-    }
-
     private static void addWell() {
         Aquiferward land = new Aquiferward();
         due.is("addWell(0, 0, 0)", land.addWell(0, 0, 0), 0);
@@ -147,7 +139,7 @@ public final class WellsTest {
     }
 
     private static void pumping() {
-        Aquiferward land = stillLand();
+        Aquiferward land = Lands.still();
         land.setCell(9, 0, 10, 500);
         land.addWell(9, 10, 25);
         land.setWish(0, 10);
@@ -170,7 +162,7 @@ public final class WellsTest {
     }
 
     private static void pumpingBehindTransfers() {
-        Aquiferward land = stillLand();
+        Aquiferward land = Lands.still();
         land.setCell(0, 0, 10, 500);
         land.addWell(0, 0, 50);
         land.addWell(0, 0, 0);
@@ -192,7 +184,7 @@ public final class WellsTest {
     }
 
     private static void calls() {
-        Aquiferward land = stillLand();
+        Aquiferward land = Lands.still();
         land.setCell(4, 0, 10, 15);
         land.setCell(5, 0, 10, 90);
         land.addWell(5, 20, 99);
@@ -211,7 +203,7 @@ public final class WellsTest {
         due.is("the caller is not shut", land.isShut(1), false);
         land.pass(1);
         due.is("it calls again", land.events(), 2);
-        Aquiferward alike = stillLand();
+        Aquiferward alike = Lands.still();
         alike.addWell(4, 10, 99);
         alike.addWell(4, 10, 99);
         alike.setWish(0, 1);
@@ -225,7 +217,7 @@ public final class WellsTest {
     private static void callsReach() {
         int[] cells = {10, 11, 12, 13, 14};
         boolean[] shutBy12 = {true, true, false, true, true};
-        Aquiferward land = stillLand();
+        Aquiferward land = Lands.still();
         for (int cell : cells) {
             land.addWell(cell, cell == 12 ? 5 : 6, 9);
         }
@@ -236,7 +228,7 @@ public final class WellsTest {
             due.is("shut in the cell " + cells[well], land.isShut(well), shutBy12[well]);
         }
         due.is("the other layer is not shut", land.isShut(5), false);
-        Aquiferward far = stillLand();
+        Aquiferward far = Lands.still();
         far.addWell(9, 0, 9);
         far.addWell(12, 1, 9);
         far.addWell(8, 1, 9);
@@ -250,7 +242,7 @@ public final class WellsTest {
         due.is("the next number, but in the other layer", far.isShut(3), false);
         due.is("the other layer too", far.isShut(4), false);
         due.is("in the same cell", far.isShut(5), true);
-        Aquiferward older = stillLand();
+        Aquiferward older = Lands.still();
         older.addWell(3, 9, 9);
         older.addWell(3, 8, 9);
         older.setWish(0, 1);
@@ -260,7 +252,7 @@ public final class WellsTest {
     }
 
     private static void shutTillTheYearEnds() {
-        Aquiferward land = stillLand();
+        Aquiferward land = Lands.still();
         land.setCell(1, 0, 10, 50);
         land.addWell(0, 0, 9);
         land.addWell(1, 1, 9);
@@ -281,7 +273,7 @@ public final class WellsTest {
     }
 
     private static void whoDoesNotCall() {
-        Aquiferward land = stillLand();
+        Aquiferward land = Lands.still();
         land.setCell(0, 0, 10, 4);
         land.addWell(0, 0, 4);
         land.setWish(0, 10);
@@ -294,14 +286,14 @@ public final class WellsTest {
         land.pass(1);
         due.is("less than what is left", land.pumped(0), 7);
         due.is("a call by it", land.events(), 1);
-        Aquiferward idle = stillLand();
+        Aquiferward idle = Lands.still();
         idle.addWell(0, 0, 9);
         idle.pass(1);
         due.is("no call without a wish", idle.events(), 0);
     }
 
     private static void forfeits() {
-        Aquiferward land = stillLand();
+        Aquiferward land = Lands.still();
         land.addWell(0, 0, 9);
         land.addWell(7, 0, 9);
         land.setWish(0, 1);
@@ -320,7 +312,7 @@ public final class WellsTest {
         land.pass(12);
         due.is("forfeited again", land.amount(0), 0);
 
-        Aquiferward used = stillLand();
+        Aquiferward used = Lands.still();
         used.addWell(0, 0, 9);
         used.setWish(0, 1);
         used.pass(24);
@@ -333,7 +325,7 @@ public final class WellsTest {
         used.pass(12);
         due.is("amount behind three years more", used.amount(0), 0);
 
-        Aquiferward shut = stillLand();
+        Aquiferward shut = Lands.still();
         shut.setCell(1, 0, 10, 999);
         shut.addWell(0, 0, 9);
         shut.addWell(1, 1, 9);
@@ -345,7 +337,7 @@ public final class WellsTest {
     }
 
     private static void forfeitsByTheWishAtTheEnd() {
-        Aquiferward land = stillLand();
+        Aquiferward land = Lands.still();
         land.addWell(0, 0, 9);
         land.addWell(7, 0, 9);
         land.pass(11);
@@ -368,7 +360,7 @@ public final class WellsTest {
     }
 
     private static void forfeitsWithoutAnAmount() {
-        Aquiferward land = stillLand();
+        Aquiferward land = Lands.still();
         land.addWell(0, 0, 0);
         land.addWell(7, 0, 50);
         land.setWish(0, 1);
@@ -385,7 +377,7 @@ public final class WellsTest {
     }
 
     private static void without() {
-        Aquiferward land = stillLand();
+        Aquiferward land = Lands.still();
         land.setCell(3, 0, 10, 60);
         land.setCell(4, 0, 10, 100);
         land.addWell(3, 1, 99);
@@ -414,7 +406,7 @@ public final class WellsTest {
     }
 
     private static void withoutTransfers() {
-        Aquiferward land = stillLand();
+        Aquiferward land = Lands.still();
         land.setCell(0, 0, 50, 5000);
         land.addWell(0, 0, 100);
         land.addWell(0, 0, 10);
@@ -430,7 +422,7 @@ public final class WellsTest {
         due.is("without a transfer that was not possible", land.pumpedWithout(2, 0), 0);
         due.is("without what was given to the other", land.pumpedWithout(1, 2), 40);
 
-        Aquiferward full = stillLand();
+        Aquiferward full = Lands.still();
         full.setCell(0, 0, 50, 5000);
         full.addWell(0, 0, 0);
         full.addWell(0, 0, 950);
@@ -442,7 +434,7 @@ public final class WellsTest {
         due.is("pumped(2) of the full land", full.pumped(2), 10);
         due.is("without one that would have been too much", full.pumpedWithout(2, 0), 60);
 
-        Aquiferward refused = stillLand();
+        Aquiferward refused = Lands.still();
         refused.setCell(0, 0, 50, 5000);
         refused.addWell(0, 0, 0);
         refused.addWell(0, 0, 10);
@@ -455,8 +447,8 @@ public final class WellsTest {
     }
 
     private static void withoutChangesNothing() {
-        Aquiferward land = stillLand();
-        Aquiferward twin = stillLand();
+        Aquiferward land = Lands.still();
+        Aquiferward twin = Lands.still();
         for (Aquiferward each : new Aquiferward[] {land, twin}) {
             each.setCell(3, 0, 10, 30);
             each.addWell(3, 1, 99);
@@ -479,7 +471,7 @@ public final class WellsTest {
     }
 
     private static void withoutForfeits() {
-        Aquiferward land = stillLand();
+        Aquiferward land = Lands.still();
         land.setRain(3, 5);
         land.addWell(3, 1, 99);
         land.addWell(3, 2, 99);
